@@ -1,0 +1,1 @@
+final class PlainTest { static void runsNothing() {} }
