@@ -1463,8 +1463,8 @@ public final class HandBeasts {
         private final int[] stop = new int[ORDER_MOST];
         private final int[] stopPlace = new int[ORDER_MOST];
         private final int[][] between = new int[ORDER_MOST][ORDER_MOST];
-        /** Of each set of stops that are done and the last one of them: how long the rest is at least. */
-        private final int[][] rest = new int[1 << ORDER_MOST][ORDER_MOST];
+        /** Of each set of stops that are done (ORDER_MOST places each) and the last one of them: the shortest rest. */
+        private final int[] rest = new int[ORDER_MOST << ORDER_MOST];
         final int[] inOrder = new int[ORDER_MOST];
 
         void openHeld(Reach reach, int tension) {
@@ -1530,7 +1530,7 @@ public final class HandBeasts {
             int all = (1 << stops) - 1;
             for (int done = all; done > 0; done--) {
                 for (int last = 0; last < stops; last++) {
-                    rest[done][last] = done == all ? between[last][last] : leastRest(done, last);
+                    rest[done * ORDER_MOST + last] = done == all ? between[last][last] : leastRest(done, last);
                 }
             }
             int least = leastRest(0, NONE);
@@ -1541,7 +1541,7 @@ public final class HandBeasts {
 
         /** How long it is by a next stop, from the last one (NONE: there is none as yet) to the end. */
         private int restBy(int done, int last, int next) {
-            return (last == NONE ? 0 : between[last][next]) + rest[done | 1 << next][next];
+            return (last == NONE ? 0 : between[last][next]) + rest[(done | 1 << next) * ORDER_MOST + next];
         }
 
         private int leastRest(int done, int last) {

@@ -96,6 +96,12 @@ final class BeastsTest {
         Kit.both(x, "all are BARRED", x.many(), 0, 0);
         Kit.hands(x, "h65f022h66f022", 2);
         Kit.both(x, "FINGERS that meet in 11 of 25", x.many(), 14, 0);
+        Kit.hands(x, "h89f022h90f022", 2);
+        Kit.both(x, "the same in the lower half", x.many(), 14, 0);
+        Kit.hands(x, "h5f0h65f011", 1);
+        Kit.both(x, "a FINGER that is out ahead of one that turns", x.many(), 0, 0);
+        Kit.hands(x, "h65f011h5f0", 1);
+        Kit.both(x, "a FINGER that is out behind one that turns", x.many(), 0, 0);
         Kit.hands(x, "h65", 0);
         Kit.both(x, "no JOINTS", x.many(), 1, 0);
     }
@@ -208,6 +214,11 @@ final class BeastsTest {
         Kit.both(x, "sets() of none", x.sets(0), 0, 3);
         Kit.hands(x, "h68f211", 1);
         Kit.both(x, "sets() of all", x.sets(0), 3, 0);
+        Kit.hands(x, "h68f210", 1);
+        Kit.both(x, "sets() of two", x.sets(0), 2, 0);
+        Kit.hands(x, "h68f011f211", 2);
+        Kit.shadow(x, 1, 11, 5, 11, 4, 10, 3);
+        Kit.both(x, "sets() of three, alike by JOINT 0", x.sets(1), 3, 1);
         Kit.hands(x, "", 0);
         Kit.both(x, "sets() of no JOINTS", x.sets(0), 0, 0);
         Kit.shadow(x, 0);
@@ -254,6 +265,8 @@ final class BeastsTest {
         Kit.both(x, "least by losing all, by dx ahead of dy", x.where(0, 1), 1, 203);
         Kit.beast(x, 2, 0, 7, 7, 8, 7, 7, 8, 8, 8);
         Kit.both(x, "of z 2", x.where(0, 2), 0, 200);
+        Kit.beast(x, 3, 0, 2, 2);
+        Kit.both(x, "by the first LAMP", x.where(0, 3), 0, 100);
         x.lamp(2, 1, 2);
         Kit.both(x, "whatever the LAMP is", x.where(0, 0), 0, 150);
         Kit.same("the LAMP stays", x.lamp(2, 1, 2), 245);
@@ -265,7 +278,11 @@ final class BeastsTest {
         Kit.bad(x, "where(-1, 0)", () -> x.where(-1, 0));
         Kit.bad(x, "where(0, 6)", () -> x.where(0, 6));
         Kit.bad(x, "where(0, -1)", () -> x.where(0, -1));
-        Kit.finds(x, "where(0, 3)", () -> x.where(0, 3), Kit.NOTHING);
+        Kit.finds(x, "where(0, 4)", () -> x.where(0, 4), Kit.NOTHING);
+        Kit.hands(x, "h13", 0);
+        Kit.pose(x, NONE, 1);
+        Kit.beast(x, 3, 0, 0, 0, 1, 0, 2, 0, 0, 1, 1, 1, 2, 1, 0, 2, 1, 2, 2, 2);
+        Kit.both(x, "never larger than z 2", x.where(0, 3), 5, 211);
         Kit.hands(x, TOO_MANY, 6);
         Kit.pose(x, NONE, 1, 0, 0, 0, 0, 0, 0);
         Kit.both(x, "never SPENT", x.where(0, 1), 1, 250);
@@ -294,6 +311,15 @@ final class BeastsTest {
         Kit.hands(x, "h5f0", 0);
         Kit.shadow(x, 0, 5, 0);
         Kit.refused(x, "picture() of what is BARRED", () -> x.picture(0), NONE);
+        Kit.hands(x, "h65", 0);
+        Kit.shadow(x, 0, 2, 2);
+        Kit.both(x, "picture() by the first LAMP", x.picture(0), 100, 1);
+        Kit.hands(x, "h13", 0);
+        Kit.shadow(x, 0, 0, 0, 1, 0, 2, 0, 0, 1, 1, 1, 2, 1, 0, 2, 1, 2, 2, 2);
+        Kit.refused(x, "picture() of z 3", () -> x.picture(0), NONE);
+        Kit.hands(x, "h5f4h65f0", 0);
+        Kit.shadow(x, 0, 5, 0, 5, 1, 5, 5, 5, 4);
+        Kit.both(x, "picture() of two HANDS", x.picture(0), 133, 1);
     }
 
     static void promise33PictureRefused() {

@@ -267,7 +267,7 @@ final class LanguageTest {
         long[] room = new long[2];
         weigh(new HandBeasts(), room, new HashSet<>());
         // of the some 600000 and 7300000 of all calls of a run
-        if (room[0] > 600 || room[1] > 50000) throw new AssertionError(room[0] + " objects, " + room[1] + " fields and elements");
+        if (room[0] > 200 || room[1] > 40000) throw new AssertionError(room[0] + " objects, " + room[1] + " fields and elements");
     }
 
     private static void weigh(Object o, long[] room, Set<Integer> seen) {

@@ -183,6 +183,12 @@ final class LookersTest {
         x.call(0, 0, 1);
         x.call(0, 1, 0);
         Kit.both(x, "1 and 2", x.fit(0), 120, 2);
+        // of this one it is as of POSE 0, but BEAST 2 is just like BEAST 1 and MOVES, too
+        Kit.same("a MOVING one", Kit.pose(x, 0, 4, 0), 2);
+        Kit.beast(x, 2, 1, 5, 5, 5, 4, 5, 3, 0, 0, 1, 1, 2, 2);
+        x.call(0, 2, 2);
+        Kit.both(x, "1 and 2 and d 1", x.fit(0), 121, 3);
+        Kit.same("back()", x.back(2), 1);
         // of POSE 0 it is 2 a by 5 e: this wants 1 and 3
         Kit.beast(x, 1, 0, 5, 5, 5, 4, 5, 3, 0, 0, 1, 1, 2, 2, 3, 3, 4, 4);
         Kit.both(x, "never 3", x.fit(0), 0, 1);

@@ -30,6 +30,23 @@ final class PlainTest {
         for (int seed = 2001; seed <= 2012; seed++) new PlainTest(seed, 20000).go(120);
     }
 
+    /** As many TURNS as may be, fewer by a little, more by a little. */
+    static void runsAboutTheMostTurns() {
+        String[] all = {"h65f0212121f4212121", "h63f0121212h68f4121212", "h65f022h20f4222222f222", "h65f0121212f4212122",
+            "h20f3212121h65f4111111f622", "h65f0222222f422f222f622"};
+        for (int n = 0; n < all.length; n++) {
+            PlainTest test = new PlainTest(4001 + n, 60);
+            test.tellText(0, all[n]);
+            test.same("hands(0)", test.x.hands(0), test.y.hands(0));
+            for (int i = 0; i < 4; i++) test.pose();
+            for (int i = 0; i < 8; i++) test.beasts();
+            for (int i = 0; i < 40; i++) test.search();
+            test.same("many()", test.x.many(), test.y.many());
+            test.same("strain(4)", test.x.strain(4), test.y.strain(4));
+            test.same("many()", test.x.many(), test.y.many());
+        }
+    }
+
     static void runsOfFaults() {
         for (int seed = 3001; seed <= 3400; seed++) {
             PlainTest test = new PlainTest(seed, 20000);
@@ -93,7 +110,7 @@ final class PlainTest {
         int joints = 0;
         int fingers = 0;
         int hands = chance.nextInt(8) == 0 ? chance.nextInt(3) : 1 + chance.nextInt(2);
-        int wrist = chance.nextInt(120);
+        int wrist = chance.nextInt(3) == 0 ? chance.nextInt(120) : 12 * (3 + chance.nextInt(4)) + 3 + chance.nextInt(6);
         for (int h = 0; h < hands; h++) {
             if (chance.nextInt(3) == 0) s.append(' ');
             s.append('h').append(chance.nextInt(6) == 0 ? "0" + wrist % 100 : "" + wrist);
@@ -102,7 +119,7 @@ final class PlainTest {
                 if (chance.nextInt(3) == 0) s.append(' ');
                 s.append('f').append(chance.nextInt(8));
                 fingers++;
-                for (int j = chance.nextInt(4); j > 0 && joints < 6; j--) {
+                for (int j = 1 + chance.nextInt(4) & 3; j > 0 && joints < 6; j--) {
                     int b = chance.nextInt(3);
                     int t = chance.nextInt(3);
                     if (turns * (b + t + 1) > most) break;
@@ -204,7 +221,7 @@ final class PlainTest {
     private void step() {
         int of = chance.nextInt(100);
         if (of < 6) rows();
-        else if (of < 8) hands();
+        else if (of < 7) hands();
         else if (of < 20) pose();
         else if (of < 36) poses();
         else if (of < 46) beasts();
@@ -243,7 +260,7 @@ final class PlainTest {
                 same("help(" + p + ", " + r + ")", x.help(p, r), y.help(p, r));
                 break;
             case 1:
-                int n = chance.nextInt(3) == 0 ? number(13) : x.count(3);
+                int n = chance.nextInt(9) == 0 ? number(13) : x.count(3) - (chance.nextInt(3) == 0 ? 1 : 0);
                 same("back(" + n + ")", x.back(n), y.back(n));
                 break;
             case 2: same("about(" + p + ", " + what + ")", x.about(p, what), y.about(p, what)); break;
@@ -293,6 +310,10 @@ final class PlainTest {
                 break;
             case 9:
                 int set = number(1 << x.count(3)) & (x.count(3) > 7 ? ~number(4096) : -1);
+                // else most sets have one that is not HELD
+                for (int i = 0; i < 12 && chance.nextInt(9) > 0; i++) {
+                    if (x.mark(i, 1) == HandBeasts.FINDING & y.mark(i, 1) == HandBeasts.FINDING) set &= ~(1 << i);
+                }
                 same("order(" + set + ", " + r + ")", x.order(set, r), y.order(set, r));
                 break;
             case 10:
@@ -307,10 +328,10 @@ final class PlainTest {
     }
 
     private void lookers() {
-        int l = number(x.count(6));
+        int l = chance.nextInt(4) == 0 ? number(x.count(6)) : 0;
         int p = number(x.count(3));
         int k = number(6);
-        switch (chance.nextInt(10)) {
+        switch (x.count(6) == 0 ? 0 : chance.nextInt(10)) {
             case 0:
                 int e = number(5);
                 int a = number(5);

@@ -374,6 +374,10 @@ final class PosesTest {
         x.lamp(2, -1, -1);
         Kit.same("a fourth of the large one stays", x.thrown(0, 0), 1);
         Kit.holdsShadow(x, "a fourth of the large one stays", 0, 0, 0);
+        HandBeasts y = Kit.withHands("h0f2h60f2", 0);
+        Kit.pose(y, NONE, 1);
+        Kit.same("CELLS at the left edge, beside others", y.thrown(0, 0), 4);
+        Kit.holdsShadow(y, "CELLS at the left edge, beside others", 0, 0, 0, 1, 0, 0, 5, 1, 5);
         x.lamp(2, 0, 3);
         Kit.same("all of the large one stays", x.thrown(0, 0), 4);
         Kit.holdsShadow(x, "all of the large one stays", 0, 0, 3, 1, 3, 0, 4, 1, 4);

@@ -89,6 +89,12 @@ final class WaysTest {
         Kit.same("seen and stays", x.unseen(2, 2, 0, 0), 0);
         Kit.refused(x, "0, 1 is seen too", () -> x.unseen(0, 1, 0, 2), NONE);
         Kit.refused(x, "all are seen", () -> x.unseen(0, 1, 0, 120), NONE);
+        Kit.pose(x, NONE, 1, 0, -1);
+        // the first of all TURNS, -1, -1, is seen: 5, 5; 5, 4; 4, 3; and behind them 3, 3
+        Kit.beast(x, 1, 0, 5, 5, 5, 4, 4, 3, 3, 3);
+        Kit.shadow(x, 4);
+        Kit.same("-1, -1 is seen, 0, 0 is not", x.unseen(0, 3, 1, 0), 2);
+        Kit.same("-1, -1 is OFF by two of what 0, 0 is", x.unseen(2, 3, 1, 0), 1);
         Kit.same("all are seen, both ends side by side", x.unseen(0, 2, 0, 120), 1);
         x.lamp(1, 0, -1);
         Kit.same("by the LAMP none are seen", x.unseen(0, 1, 0, 0), 2);
@@ -187,6 +193,9 @@ final class WaysTest {
         Kit.bad(x, "ROW -1", () -> x.order(2, -1));
         Kit.finds(x, "a BARRED one", () -> x.order(2, 0), Kit.UNLIKE);
         Kit.finds(x, "a BARRED one, too", () -> x.order(3, 0), Kit.UNLIKE);
+        x.back(0);
+        Kit.pose(x, NONE, 3, 0);
+        Kit.finds(x, "the first one is BARRED", () -> x.order(1, 0), Kit.UNLIKE);
         Kit.hands(x, "h65f0222222f4222222", 6);
         Kit.pose(x, NONE, 1, 0, 0, 0, 0, 0, 0);
         Kit.pose(x, NONE, 3, 2, 2, 2, 0, 0, 0);
