@@ -33,6 +33,7 @@ public final class HandBeasts {
     private final Ways ways;
     private final Cells seen;
     private final Cells wanted;
+    private final Cells ever;
 
     public HandBeasts() {
         told = new Told();
@@ -55,6 +56,7 @@ public final class HandBeasts {
         ways = new Ways();
         seen = new Cells();
         wanted = new Cells();
+        ever = new Cells();
     }
 
     // ---- 1 rows, texts, hands, lamps
@@ -302,8 +304,8 @@ public final class HandBeasts {
         if (!isBeast(k) || !isRow(r)) return BAD;
         if (!beasts[k].there) return told.find(NOTHING);
         if (reach.spent) return SPENT;
-        reach.shade(hands, light, BOTH_HANDS);
-        reach.joinShadows(tension, seen);
+        reach.joinDark(tension, ever);
+        light.throwCells(ever.top, ever.low, seen);
         wanted.become(beasts[k].must);
         wanted.leave(seen);
         rows[r].showCells(wanted);
@@ -364,6 +366,7 @@ public final class HandBeasts {
         if (finding != 0) return told.find(finding);
         if (reach.spent) return SPENT;
         rows[r].showTo(wanted);
+        reach.joinDark(tension, ever);
         for (int n = 0; n < LAMPS; n++) {
             otherLight.becomeNumber(n);
             int throwing = numberThrowingBy(otherLight);
@@ -587,12 +590,14 @@ public final class HandBeasts {
         return reach.placeOf(hands, poses[p].turns);
     }
 
-    /** How many HELD TURNS throw what is wanted; the rows of all TURNS keep that LAMP's SHADOWS. */
+    /** How many HELD TURNS throw what is wanted, where ever is all that is dark in some of them. */
     private int numberThrowingBy(Lamp lamp) {
+        // Most LAMPS are ruled out at once: the WRISTS, dark in all TURNS, throw too much, or all TURNS together too little.
         hands.wristCells(BOTH_HANDS, seen);
         lamp.throwCells(seen.top, seen.low, seen);
-        // The WRISTS are dark in all TURNS: where they alone throw too much, none of the TURNS need be looked at.
         if (!wanted.has(seen)) return 0;
+        lamp.throwCells(ever.top, ever.low, seen);
+        if (!seen.has(wanted)) return 0;
         reach.shade(hands, lamp, BOTH_HANDS);
         return reach.numberThrowing(wanted, tension);
     }
@@ -1260,8 +1265,9 @@ public final class HandBeasts {
         boolean spent;
         /** How many TURNS the rows are of: never more than these hold. */
         int size = 1;
-        /** Of each JOINT: by how many TURNS further on its next turn is. */
-        private final int[] step = new int[JOINTS];
+        /** Of each JOINT: by how many TURNS further on its next turn is, and how many turns it has. */
+        final int[] step = new int[JOINTS];
+        final int[] span = new int[JOINTS];
         // of each of the TURNS: turns without signs together (BARRED: none), what is dark, what is thrown
         private final byte[] load = new byte[TURNS_MOST];
         private final long[] top = new long[TURNS_MOST];
@@ -1282,7 +1288,8 @@ public final class HandBeasts {
             int all = 1;
             for (int j = hands.joints - 1; j >= 0; j--) {
                 step[j] = all;
-                all *= hands.span(j);
+                span[j] = hands.span(j);
+                all *= span[j];
             }
             for (int f = 0; f < hands.fingers; f++) learnFinger(hands, f);
             spent = all > TURNS_MOST;
@@ -1373,17 +1380,9 @@ public final class HandBeasts {
             return !isBarred(i) && load[i] <= tension;
         }
 
-        /** Which of the TURNS of a JOINT it is, its first being 0. */
-        int turnPlace(Hands hands, int i, int j) {
-            return j < 0 || j >= JOINTS || step[j] < 1 ? 0 : i / step[j] % hands.span(j);
-        }
-
-        int stepOf(int j) {
-            return j < 0 || j >= JOINTS ? 0 : step[j];
-        }
-
         int turnAt(Hands hands, int i, int j) {
-            return j < 0 || j >= hands.joints ? 0 : turnPlace(hands, i, j) - hands.behind[j];
+            if (j < 0 || j >= hands.joints || step[j] < 1 || span[j] < 1) return 0;
+            return i / step[j] % span[j] - hands.behind[j];
         }
 
         int placeOf(Hands hands, int[] of) {
@@ -1416,10 +1415,11 @@ public final class HandBeasts {
             return offOf(beast, nearestTurns(hands, beast, tension, stiffJoint));
         }
 
-        void joinShadows(int tension, Cells all) {
+        /** All that is dark in some HELD TURNS. */
+        void joinDark(int tension, Cells all) {
             all.clear();
             for (int i = 0; i < size; i++) {
-                if (isHeld(i, tension)) all.join(thrownTop[i], thrownLow[i]);
+                if (isHeld(i, tension)) all.join(top[i], low[i]);
             }
         }
 
@@ -1443,7 +1443,7 @@ public final class HandBeasts {
                 if (!throwsJust(i, shadow, tension)) continue;
                 if (model == NONE) model = i;
                 for (int j = 0; j < hands.joints; j++) {
-                    if (turnPlace(hands, i, j) != turnPlace(hands, model, j)) alike &= ~(1 << j);
+                    if (turnAt(hands, i, j) != turnAt(hands, model, j)) alike &= ~(1 << j);
                 }
             }
             return alike;
@@ -1494,10 +1494,14 @@ public final class HandBeasts {
             come(p, 0);
             for (int n = 0; n < queued && n < TURNS_MOST && farOf(q) < 0; n++) {
                 int i = queue[n];
+                int next = far[i] + 1;
                 for (int j = 0; j < hands.joints; j++) {
-                    int turned = reach.turnPlace(hands, i, j);
-                    if (turned > 0) come(i - reach.stepOf(j), far[i] + 1);
-                    if (turned < hands.span(j) - 1) come(i + reach.stepOf(j), far[i] + 1);
+                    int step = reach.step[j];
+                    int span = reach.span[j];
+                    if (step < 1 || span < 1) continue;
+                    int turned = i / step % span;
+                    if (turned > 0) come(i - step, next);
+                    if (turned < span - 1) come(i + step, next);
                 }
             }
         }
@@ -1525,7 +1529,11 @@ public final class HandBeasts {
             for (int a = 0; a < stops; a++) {
                 openHeld(reach, tension);
                 walk(reach, hands, stopPlace[a], NONE);
-                for (int b = 0; b < stops; b++) between[a][b] = farOf(stopPlace[b]) < 0 ? LOST : farOf(stopPlace[b]);
+                // A WAY back is as long as the WAY, so those to the stops ahead are known.
+                for (int b = a; b < stops; b++) {
+                    between[a][b] = farOf(stopPlace[b]) < 0 ? LOST : farOf(stopPlace[b]);
+                    between[b][a] = between[a][b];
+                }
             }
             int all = (1 << stops) - 1;
             for (int done = all; done > 0; done--) {
