@@ -1,5 +1,6 @@
 import java.lang.reflect.InvocationTargetException;
 import java.lang.reflect.Method;
+import java.lang.reflect.Modifier;
 import java.util.Arrays;
 import java.util.Comparator;
 
@@ -7,7 +8,11 @@ import java.util.Comparator;
 public final class AllTests {
     private static final Class<?>[] TESTS = {
         RowsTest.class, HandsTest.class, PosesTest.class, BeastsTest.class, WaysTest.class,
-        LookersTest.class, ToldTest.class, PlainTest.class, LanguageTest.class
+        LookersTest.class, ToldTest.class,
+        EdgesOfRowsTest.class, EdgesOfHandsTest.class, EdgesOfPosesTest.class, EdgesOfBeastsTest.class,
+        EdgesOfWaysTest.class, EdgesOfLookersTest.class, EdgesOfToldTest.class,
+        RefusalsOfRowsTest.class, RefusalsOfPosesTest.class, RefusalsOfBeastsTest.class, RefusalsOfLookersTest.class,
+        PlainTest.class, LanguageTest.class
     };
 
     static String program = "src/main/java/HandBeasts.java";
@@ -30,7 +35,7 @@ public final class AllTests {
         int before = passed + failed;
         for (Method m : methods) {
             boolean isTest = m.getParameterCount() == 0 && m.getReturnType() == void.class && !m.isSynthetic()
-                && (m.getName().startsWith("promise") || m.getName().startsWith("rule") || m.getName().startsWith("runs"));
+                && !Modifier.isPrivate(m.getModifiers());
             if (isTest) run(tests, m);
         }
         if (passed + failed == before) {
@@ -46,11 +51,19 @@ public final class AllTests {
             passed++;
         } catch (InvocationTargetException e) {
             failed++;
-            System.out.println("FAILED: " + tests.getName() + "." + m.getName() + ": " + e.getCause());
+            System.out.println("FAILED: " + tests.getName() + "." + m.getName() + ": " + e.getCause() + placeOf(e.getCause(), m));
             if (!(e.getCause() instanceof AssertionError)) e.getCause().printStackTrace(System.out);
         } catch (IllegalAccessException e) {
             failed++;
             System.out.println("FAILED: " + tests.getName() + "." + m.getName() + ": " + e);
         }
+    }
+
+    /** Where in the test it was, since one test may ask much alike. */
+    private static String placeOf(Throwable t, Method test) {
+        for (StackTraceElement e : t.getStackTrace()) {
+            if (e.getMethodName().equals(test.getName())) return " (" + e.getFileName() + ":" + e.getLineNumber() + ")";
+        }
+        return "";
     }
 }

@@ -27,33 +27,6 @@ final class BeastsTest {
         Kit.same("beast() of all CELLS", x.beast(0, 0, 1, 1), 120);
     }
 
-    static void promise24BeastRefused() {
-        HandBeasts x = new HandBeasts();
-        Kit.shadow(x, 0, 5, 5);
-        Kit.row(x, 1, 1, 2, 3, 4, 5, 6, 7, 8, 9);
-        Kit.row(x, 2, 1, 2, 3, 4, 5, 6, 7, 8, 9, 4096);
-        Kit.row(x, 3, -1, 2, 3, 4, 5, 6, 7, 8, 9, 10);
-        Kit.row(x, 4, -1, 2, 3, 4, 5, 6, 7, 8, 9, 10, 11);
-        x.beast(0, 0, 0, 1);
-        Kit.bad(x, "BEAST 6", () -> x.beast(6, 0, 0, 0));
-        Kit.bad(x, "BEAST -1", () -> x.beast(-1, 0, 0, 0));
-        Kit.bad(x, "MUST of ROW 6", () -> x.beast(0, 6, 5, 0));
-        Kit.bad(x, "MUST of ROW -1", () -> x.beast(0, -1, 0, 0));
-        Kit.bad(x, "MAY of ROW 6", () -> x.beast(0, 5, 6, 0));
-        Kit.bad(x, "MAY of ROW -1", () -> x.beast(0, 0, -1, 0));
-        Kit.bad(x, "MOVES 2", () -> x.beast(0, 5, 0, 2));
-        Kit.bad(x, "MOVES -1", () -> x.beast(0, 0, 0, -1));
-        Kit.finds(x, "MUST is missing", () -> x.beast(0, 5, 1, 0), Kit.NOTHING);
-        Kit.finds(x, "MAY is missing", () -> x.beast(0, 1, 5, 0), Kit.NOTHING);
-        Kit.finds(x, "MUST is of nine", () -> x.beast(0, 1, 2, 0), Kit.SIZE);
-        Kit.finds(x, "MAY is of nine", () -> x.beast(0, 2, 1, 0), Kit.SIZE);
-        Kit.finds(x, "MAY is of eleven", () -> x.beast(0, 0, 4, 0), Kit.SIZE);
-        Kit.finds(x, "MUST has 4096", () -> x.beast(0, 2, 0, 0), Kit.UNLIKE);
-        Kit.finds(x, "MAY has 4096", () -> x.beast(0, 0, 2, 0), Kit.UNLIKE);
-        Kit.finds(x, "MUST has -1", () -> x.beast(0, 3, 0, 0), Kit.UNLIKE);
-        Kit.finds(x, "MAY has -1", () -> x.beast(0, 0, 3, 0), Kit.UNLIKE);
-    }
-
     static void promise25Off() {
         HandBeasts x = Kit.withHands(ONE, 1);
         Kit.pose(x, NONE, 1, 0);
@@ -73,11 +46,6 @@ final class BeastsTest {
         x.strain(99);
         x.help(0, 0);
         Kit.both(x, "with a CARD", x.off(0, 1), 3, 1);
-        Kit.bad(x, "off(2, 1)", () -> x.off(2, 1));
-        Kit.bad(x, "off(-1, 1)", () -> x.off(-1, 1));
-        Kit.bad(x, "off(0, 6)", () -> x.off(0, 6));
-        Kit.bad(x, "off(0, -1)", () -> x.off(0, -1));
-        Kit.bad(x, "off(2, 0)", () -> x.off(2, 0));
         Kit.finds(x, "off(0, 0)", () -> x.off(0, 0), Kit.NOTHING);
     }
 
@@ -152,22 +120,6 @@ final class BeastsTest {
         Kit.holds(x, "no JOINTS", 1);
     }
 
-    static void promise27NearestRefused() {
-        HandBeasts x = Kit.withHands("h5f0", 0);
-        Kit.beast(x, 0, 0, 5, 5);
-        Kit.row(x, 0, 7, 8);
-        Kit.refused(x, "none is HELD", () -> x.nearest(0, 0), NONE);
-        Kit.holds(x, "NONE", 0, 7, 8);
-        Kit.bad(x, "nearest(6, 0)", () -> x.nearest(6, 0));
-        Kit.bad(x, "nearest(-1, 0)", () -> x.nearest(-1, 0));
-        Kit.bad(x, "nearest(0, 6)", () -> x.nearest(0, 6));
-        Kit.bad(x, "nearest(1, -1)", () -> x.nearest(1, -1));
-        Kit.finds(x, "nearest(1, 0)", () -> x.nearest(1, 0), Kit.NOTHING);
-        Kit.hands(x, TOO_MANY, 6);
-        Kit.finds(x, "NOTHING ahead of SPENT", () -> x.nearest(1, 0), Kit.NOTHING);
-        Kit.refused(x, "SPENT", () -> x.nearest(0, 0), SPENT);
-    }
-
     static void promise28Never() {
         HandBeasts x = Kit.withHands(ONE, 1);
         Kit.beast(x, 0, 0, 5, 5, 4, 4, 5, 3, 0, 0, 11, 9);
@@ -183,10 +135,6 @@ final class BeastsTest {
         Kit.hands(x, "h5f0", 0);
         Kit.same("never() of none HELD", x.never(0, 0), 5);
         Kit.holdsShadow(x, "never() of none HELD", 0, 5, 5, 4, 4, 5, 3, 0, 0, 11, 9);
-        Kit.bad(x, "never(6, 0)", () -> x.never(6, 0));
-        Kit.bad(x, "never(-1, 0)", () -> x.never(-1, 0));
-        Kit.bad(x, "never(0, 6)", () -> x.never(0, 6));
-        Kit.bad(x, "never(1, -1)", () -> x.never(1, -1));
         Kit.finds(x, "never(1, 0)", () -> x.never(1, 0), Kit.NOTHING);
         Kit.hands(x, TOO_MANY, 6);
         Kit.finds(x, "NOTHING ahead of SPENT", () -> x.never(1, 0), Kit.NOTHING);
@@ -225,37 +173,6 @@ final class BeastsTest {
         Kit.both(x, "sets() of no JOINTS", x.sets(0), 1, 0);
     }
 
-    private interface OfRow {
-        int answer(int r);
-    }
-
-    private static void shadowRefusals(HandBeasts x, String what, OfRow call) {
-        Kit.row(x, 1, 1, 2, 3, 4, 5, 6, 7, 8, 9);
-        Kit.row(x, 2, 1, 2, 3, 4, 5, 6, 7, 8, 9, 4096);
-        Kit.row(x, 3, -1, 2, 3, 4, 5, 6, 7, 8, 9, 10, 11);
-        Kit.row(x, 4, -1, 2, 3, 4, 5, 6, 7, 8, 9, 10);
-        Kit.shadow(x, 5, 5, 5);
-        Kit.bad(x, what + " of ROW 6", () -> call.answer(6));
-        Kit.bad(x, what + " of ROW -1", () -> call.answer(-1));
-        for (int round = 0; round < 2; round++) {
-            Kit.finds(x, what + " of a ROW that is missing", () -> call.answer(0), Kit.NOTHING);
-            Kit.finds(x, what + " of nine", () -> call.answer(1), Kit.SIZE);
-            Kit.finds(x, what + " of 4096", () -> call.answer(2), Kit.UNLIKE);
-            Kit.finds(x, what + " of eleven, one unlike", () -> call.answer(3), Kit.SIZE);
-            Kit.finds(x, what + " of -1", () -> call.answer(4), Kit.UNLIKE);
-            if (round == 0) {
-                Kit.text(x, 0, TOO_MANY);
-                Kit.same("hands()", x.hands(0), 6);
-            }
-        }
-        Kit.refused(x, what + " SPENT", () -> call.answer(5), SPENT);
-    }
-
-    static void promise29SetsRefused() {
-        HandBeasts x = Kit.withHands(ONE, 1);
-        shadowRefusals(x, "sets()", r -> x.sets(r));
-    }
-
     static void promise32Where() {
         HandBeasts x = Kit.withHands("h65", 0);
         Kit.pose(x, NONE, 1);
@@ -274,10 +191,6 @@ final class BeastsTest {
         x.help(0, 0);
         Kit.both(x, "with its CARD", x.where(0, 1), 0, 203);
         Kit.both(x, "z 1 ahead of z 2, dx ahead of dy: the CARD is OVER", x.where(0, 0), 1, 150);
-        Kit.bad(x, "where(1, 0)", () -> x.where(1, 0));
-        Kit.bad(x, "where(-1, 0)", () -> x.where(-1, 0));
-        Kit.bad(x, "where(0, 6)", () -> x.where(0, 6));
-        Kit.bad(x, "where(0, -1)", () -> x.where(0, -1));
         Kit.finds(x, "where(0, 4)", () -> x.where(0, 4), Kit.NOTHING);
         Kit.hands(x, "h13", 0);
         Kit.pose(x, NONE, 1);
@@ -322,11 +235,6 @@ final class BeastsTest {
         Kit.both(x, "picture() of two HANDS", x.picture(0), 133, 1);
     }
 
-    static void promise33PictureRefused() {
-        HandBeasts x = Kit.withHands(ONE, 1);
-        shadowRefusals(x, "picture()", r -> x.picture(r));
-    }
-
     static void promise35Two() {
         // HAND 1: the WRIST at 8, 1; the FINGER: 8, 2, then by its turn -1 .. 1: 9, 3; 8, 3; 7, 3
         HandBeasts x = Kit.withHands("h65f022h20f411", 2);
@@ -362,24 +270,6 @@ final class BeastsTest {
         Kit.refused(x, "HAND 0 is BARRED", () -> x.two(0, 1), NONE);
     }
 
-    static void promise35TwoRefused() {
-        HandBeasts x = Kit.withHands(ONE, 1);
-        Kit.beast(x, 0, 0, 5, 5);
-        Kit.bad(x, "two(6, 0)", () -> x.two(6, 0));
-        Kit.bad(x, "two(-1, 0)", () -> x.two(-1, 0));
-        Kit.bad(x, "two(0, 6)", () -> x.two(0, 6));
-        Kit.bad(x, "two(1, -1)", () -> x.two(1, -1));
-        Kit.refused(x, "one HAND", () -> x.two(0, 0), HandBeasts.STATE);
-        Kit.refused(x, "STATE ahead of NOTHING", () -> x.two(0, 1), HandBeasts.STATE);
-        Kit.hands(x, "h65f0222222f4222222h3", 6);
-        Kit.finds(x, "NOTHING ahead of SPENT", () -> x.two(0, 1), Kit.NOTHING);
-        Kit.finds(x, "NOTHING ahead of SPENT", () -> x.two(1, 0), Kit.NOTHING);
-        Kit.refused(x, "SPENT", () -> x.two(0, 0), SPENT);
-        // the reading of this project: SPENT is by all TURNS, also if those of each HAND alone are few
-        Kit.hands(x, "h65f0222222h20f4222222", 6);
-        Kit.refused(x, "SPENT by both together", () -> x.two(0, 0), SPENT);
-    }
-
     static void promise36Stiff() {
         HandBeasts x = Kit.withHands(ONE, 1);
         Kit.beast(x, 0, 0, 5, 5, 5, 4, 6, 4);
@@ -401,11 +291,6 @@ final class BeastsTest {
         Kit.both(x, "JOINT 1 of two", x.stiff(1, 3), 2, 2);
         Kit.hands(x, "h17f022", 1);
         Kit.refused(x, "none is HELD so", () -> x.stiff(0, 0), NONE);
-        Kit.bad(x, "stiff(1, 0)", () -> x.stiff(1, 0));
-        Kit.bad(x, "stiff(-1, 0)", () -> x.stiff(-1, 0));
-        Kit.bad(x, "stiff(0, 6)", () -> x.stiff(0, 6));
-        Kit.bad(x, "stiff(0, -1)", () -> x.stiff(0, -1));
-        Kit.bad(x, "stiff(1, 5)", () -> x.stiff(1, 5));
         Kit.finds(x, "stiff(0, 5)", () -> x.stiff(0, 5), Kit.NOTHING);
         Kit.hands(x, TOO_MANY, 6);
         Kit.finds(x, "NOTHING ahead of SPENT", () -> x.stiff(0, 5), Kit.NOTHING);

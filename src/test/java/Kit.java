@@ -1,9 +1,16 @@
+import java.util.Arrays;
+
 /** What the tests share: ways to fill TEXTS and ROWS in one line, and to look at a refused call from all sides. */
 final class Kit {
     static final int NOTHING = 1, BEYOND = 2, UNLIKE = 3, NOUGHT = 4, SIZE = 5;
 
     interface Call {
         long answer();
+    }
+
+    /** A call of any object. */
+    interface Act {
+        long answer(HandBeasts x);
     }
 
     private Kit() {
@@ -29,39 +36,48 @@ final class Kit {
         same(what + ", asked()", x.asked(), told);
     }
 
-    private static String state(HandBeasts x) {
-        StringBuilder s = new StringBuilder();
-        s.append(x.digest()).append(' ').append(x.asked()).append(' ').append(x.upper()).append(' ').append(x.lower());
-        for (int what = 0; what <= 9; what++) s.append(' ').append(x.count(what));
-        return s.toString();
+    /** In few calls, as no object is promised to answer more than 512; Twins looks closer. */
+    static String state(HandBeasts x) {
+        return x.asked() + " " + x.upper() + " " + x.lower() + " " + x.digest();
     }
 
-    private static String found(HandBeasts x) {
-        StringBuilder s = new StringBuilder().append(x.finding());
-        for (int f = 1; f <= 5; f++) s.append(' ').append(x.findings(f));
-        return s.toString();
+    /** finding(), and findings() of each FINDING. */
+    static int[] found(HandBeasts x) {
+        int[] found = new int[6];
+        found[0] = x.finding();
+        for (int f = 1; f <= 5; f++) found[f] = x.findings(f);
+        return found;
     }
 
-    /** Refused (or NONE) with no FINDING: nothing at all is changed. */
-    static void refused(HandBeasts x, String what, Call call, int want) {
-        String before = state(x) + " / " + found(x);
+    /** What found() is due to be after a FINDING (0: none) more. */
+    static int[] withOne(int[] found, int finding) {
+        int[] due = found.clone();
+        if (finding > 0) {
+            due[0] = finding;
+            due[finding]++;
+        }
+        return due;
+    }
+
+    /** Refused, or NONE: nothing is changed but for the FINDING (0: none). */
+    static void answers(HandBeasts x, String what, Call call, int want, int finding) {
+        String before = state(x);
+        int[] due = withOne(found(x), finding);
         same(what, call.answer(), want);
-        same("the object after " + what, state(x) + " / " + found(x), before);
+        same("finding() and findings() after " + what, Arrays.toString(found(x)), Arrays.toString(due));
+        same("the object after " + what, state(x), before);
+    }
+
+    static void refused(HandBeasts x, String what, Call call, int want) {
+        answers(x, what, call, want, 0);
     }
 
     static void bad(HandBeasts x, String what, Call call) {
-        refused(x, what, call, HandBeasts.BAD);
+        answers(x, what, call, HandBeasts.BAD, 0);
     }
 
-    /** Refused with a FINDING: nothing but this is changed. */
     static void finds(HandBeasts x, String what, Call call, int finding) {
-        String before = state(x);
-        int[] often = new int[6];
-        for (int f = 1; f <= 5; f++) often[f] = x.findings(f);
-        same(what, call.answer(), HandBeasts.FINDING);
-        same("finding() after " + what, x.finding(), finding);
-        for (int f = 1; f <= 5; f++) same("findings(" + f + ") after " + what, x.findings(f), often[f] + (f == finding ? 1 : 0));
-        same("the object after " + what, state(x), before);
+        answers(x, what, call, HandBeasts.FINDING, finding);
     }
 
     static void text(HandBeasts x, int t, String signs) {

@@ -4,6 +4,7 @@ import java.util.Arrays;
 import java.util.HashMap;
 import java.util.List;
 import java.util.Map;
+import java.util.Random;
 
 /**
  * The document once more, written down with no thought of speed and nothing kept that can be found again: a second
@@ -364,6 +365,12 @@ final class PlainBeasts {
         return poses.size() - 1;
     }
 
+    /** For PlainTest: a turn that a JOINT can have. */
+    int turnByChance(int j, Random chance) {
+        int b = joints.get(j)[1];
+        return chance.nextInt(b + joints.get(j)[2] + 1) - b;
+    }
+
     private static List<int[]> bothTurns(Pose p) {
         List<int[]> both = new ArrayList<>();
         both.add(p.turns);
@@ -379,7 +386,7 @@ final class PlainBeasts {
         return in(p, 0, poses.size() - 1);
     }
 
-    private boolean isHeldPose(int p) {
+    boolean isHeldPose(int p) {
         int kind = poses.get(p).kind;
         return kind == 1 || kind == 4 || kind == 5;
     }

@@ -6,10 +6,14 @@ final class PlainTest {
     private static final int[] ODD = {-1, -2, -8, -10, 6, 7, 8, 12, 13, 24, 40, 41, 80, 81, 99, 100, 120, 121, 127, 128,
         4095, 4096, 65536, Integer.MAX_VALUE, Integer.MAX_VALUE - 1, Integer.MIN_VALUE, Integer.MIN_VALUE + 1};
 
+    /** No object is promised to answer more calls; one step asks for a hundred at most, the end of a run for ten. */
+    private static final int CALLS = 512, STEP = 100, END = 10;
+
     private final Random chance;
     private final HandBeasts x = new HandBeasts();
     private final PlainBeasts y = new PlainBeasts();
     private final StringBuilder run = new StringBuilder();
+    private int left = CALLS;
     /** How many TURNS the next HANDS may have, about. */
     private final int most;
 
@@ -19,60 +23,78 @@ final class PlainTest {
     }
 
     static void runsOfFewTurns() {
-        for (int seed = 1; seed <= 400; seed++) new PlainTest(seed, 60).go(300);
+        for (int seed = 1; seed <= 3000; seed++) new PlainTest(seed, 60).go();
     }
 
     static void runsOfSomeTurns() {
-        for (int seed = 1001; seed <= 1060; seed++) new PlainTest(seed, 700).go(200);
+        for (int seed = 10001; seed <= 10300; seed++) new PlainTest(seed, 700).go();
     }
 
     static void runsOfManyTurns() {
-        for (int seed = 2001; seed <= 2012; seed++) new PlainTest(seed, 20000).go(120);
+        for (int seed = 20001; seed <= 20040; seed++) new PlainTest(seed, 20000).go();
     }
 
     /** As many TURNS as may be, fewer by a little, more by a little. */
     static void runsAboutTheMostTurns() {
         String[] all = {"h65f0212121f4212121", "h63f0121212h68f4121212", "h65f022h20f4222222f222", "h65f0121212f4212122",
             "h20f3212121h65f4111111f622", "h65f0222222f422f222f622"};
-        for (int n = 0; n < all.length; n++) {
+        for (int n = 0; n < 2 * all.length; n++) {
             PlainTest test = new PlainTest(4001 + n, 60);
-            test.tellText(0, all[n]);
+            test.tellText(0, all[n / 2]);
             test.same("hands(0)", test.x.hands(0), test.y.hands(0));
             for (int i = 0; i < 4; i++) test.pose();
-            for (int i = 0; i < 8; i++) test.beasts();
-            for (int i = 0; i < 40; i++) test.search();
+            for (int i = 0; i < 4; i++) test.beasts();
             test.same("many()", test.x.many(), test.y.many());
+            while (test.left > STEP + END) test.search();
             test.same("strain(4)", test.x.strain(4), test.y.strain(4));
             test.same("many()", test.x.many(), test.y.many());
+            test.end();
         }
     }
 
     static void runsOfFaults() {
-        for (int seed = 3001; seed <= 3400; seed++) {
+        for (int seed = 30001; seed <= 31800; seed++) {
             PlainTest test = new PlainTest(seed, 20000);
-            for (int n = 0; n < 40; n++) {
-                test.tellText(n % 4, test.withFaults(test.handsText()));
-                test.same("fault(" + n % 4 + ")", test.x.fault(n % 4), test.y.fault(n % 4));
-                test.same("hands(" + n % 4 + ")", test.x.hands(n % 4), test.y.hands(n % 4));
+            for (int t = 0; test.left > STEP + END; t = (t + 1) % 4) {
+                test.tellText(t, test.withFaults(test.handsText()));
+                test.same("fault(" + t + ")", test.x.fault(t), test.y.fault(t));
+                test.same("hands(" + t + ")", test.x.hands(t), test.y.hands(t));
             }
+            test.end();
         }
     }
 
-    private void go(int calls) {
+    private void go() {
         hands();
-        for (int n = 0; n < calls; n++) step();
+        while (left > STEP + END) step();
+        end();
     }
 
+    /** One call, looked at closely. */
     private void same(String call, long got, long want) {
+        quietly(call, got, want);
+        left -= 3;
+        if (x.asked() != y.asked()) fail(call + ": asked() is " + x.asked() + ", due is " + y.asked());
+        if (x.finding() != y.finding()) fail(call + ": finding() is " + x.finding() + ", due is " + y.finding());
+        if (x.digest() != y.digest()) fail(call + ": digest()");
+    }
+
+    /** One call of many that make ready for another. */
+    private void quietly(String call, long got, long want) {
+        left--;
         run.append(call).append(" = ").append(got).append('\n');
         if (got != want) fail(call + " answered " + got + ", due is " + want);
-        if (x.asked() != y.asked()) fail(call + ": asked() is " + x.asked() + ", due is " + y.asked());
-        if (x.upper() != y.upper() || x.lower() != y.lower()) fail(call + ": upper(), lower()");
-        if (x.finding() != y.finding()) fail(call + ": finding() is " + x.finding() + ", due is " + y.finding());
-        for (int f = 0; f <= 6; f++) {
-            if (x.findings(f) != y.findings(f)) fail(call + ": findings(" + f + ")");
-        }
-        if (x.digest() != y.digest()) fail(call + ": digest()");
+        if (left < 0) fail("too many calls");
+    }
+
+    private void sameFraction() {
+        left -= 2;
+        if (x.upper() != y.upper() || x.lower() != y.lower()) fail("upper(), lower()");
+    }
+
+    private void end() {
+        sameFraction();
+        for (int f = 0; f <= 6; f++) quietly("findings(" + f + ")", x.findings(f), y.findings(f));
     }
 
     private void fail(String what) {
@@ -96,12 +118,11 @@ final class PlainTest {
     // ---- what is told ahead of the call itself
 
     private void tellText(int t, String signs) {
-        same("text(" + t + ", " + signs.length() + ")", x.text(t, signs.length()), y.text(t, signs.length()));
+        quietly("text(" + t + ", " + signs.length() + ")", x.text(t, signs.length()), y.text(t, signs.length()));
         for (int i = 0; i < signs.length(); i++) {
             if (signs.charAt(i) == ' ') continue;
-            if (x.put(t, i, signs.charAt(i)) != y.put(t, i, signs.charAt(i))) fail("put()");
+            quietly("put(" + t + ", " + i + ", " + (int) signs.charAt(i) + ")", x.put(t, i, signs.charAt(i)), y.put(t, i, signs.charAt(i)));
         }
-        run.append(signs).append('\n');
     }
 
     private String handsText() {
@@ -154,24 +175,17 @@ final class PlainTest {
     }
 
     private void tellRow(int r, int... places) {
-        same("row(" + r + ", " + places.length + ")", x.row(r, places.length), y.row(r, places.length));
+        quietly("row(" + r + ", " + places.length + ")", x.row(r, places.length), y.row(r, places.length));
         for (int i = 0; i < places.length; i++) {
-            if (places[i] != 0) same("lay(" + r + ", " + i + ", " + places[i] + ")", x.lay(r, i, places[i]), y.lay(r, i, places[i]));
+            if (places[i] != 0) quietly("lay(" + r + ", " + i + ", " + places[i] + ")", x.lay(r, i, places[i]), y.lay(r, i, places[i]));
         }
     }
 
     private void pose() {
         int r = below(6);
-        int[] turns = new int[x.count(2) + (rarely() ? 1 : 0)];
-        int n = x.count(2);
-        for (int j = 0; j < turns.length && j < n; j++) {
-            x.joint(j, 1);
-            y.joint(j, 1);
-            int b = x.asked();
-            x.joint(j, 2);
-            y.joint(j, 2);
-            turns[j] = chance.nextInt(b + x.asked() + 1) - b + (chance.nextInt(60) == 0 ? 1 : 0);
-        }
+        int n = y.count(2);
+        int[] turns = new int[n + (rarely() ? 1 : 0)];
+        for (int j = 0; j < n; j++) turns[j] = y.turnByChance(j, chance) + (chance.nextInt(60) == 0 ? 1 : 0);
         tellRow(r, turns);
         int joint = chance.nextInt(2) == 0 ? NONE : number(n);
         same("pose(" + r + ", " + joint + ")", x.pose(r, joint), y.pose(r, joint));
@@ -189,12 +203,12 @@ final class PlainTest {
                 tellRow(r, lines);
                 break;
             case 1:
-                int p = below(x.count(3));
+                int p = below(y.count(3));
                 same("shape(" + p + ", " + r + ")", x.shape(p, r), y.shape(p, r));
                 break;
             case 2:
             case 3:
-                int q = below(x.count(3));
+                int q = below(y.count(3));
                 lampByChance(4);
                 same("thrown(" + q + ", " + r + ")", x.thrown(q, r), y.thrown(q, r));
                 break;
@@ -251,8 +265,8 @@ final class PlainTest {
     }
 
     private void poses() {
-        int p = number(x.count(3));
-        int j = number(x.count(2));
+        int p = number(y.count(3));
+        int j = number(y.count(2));
         int what = number(6);
         switch (chance.nextInt(9)) {
             case 0:
@@ -260,7 +274,7 @@ final class PlainTest {
                 same("help(" + p + ", " + r + ")", x.help(p, r), y.help(p, r));
                 break;
             case 1:
-                int n = chance.nextInt(9) == 0 ? number(13) : x.count(3) - (chance.nextInt(3) == 0 ? 1 : 0);
+                int n = chance.nextInt(9) == 0 ? number(13) : y.count(3) - (chance.nextInt(3) == 0 ? 1 : 0);
                 same("back(" + n + ")", x.back(n), y.back(n));
                 break;
             case 2: same("about(" + p + ", " + what + ")", x.about(p, what), y.about(p, what)); break;
@@ -285,8 +299,8 @@ final class PlainTest {
     }
 
     private void search() {
-        int p = number(x.count(3));
-        int q = number(x.count(3));
+        int p = number(y.count(3));
+        int q = number(y.count(3));
         int k = number(6);
         int r = number(6);
         switch (chance.nextInt(12)) {
@@ -309,10 +323,10 @@ final class PlainTest {
                 same("picture(" + t + ")", x.picture(t), y.picture(t));
                 break;
             case 9:
-                int set = number(1 << x.count(3)) & (x.count(3) > 7 ? ~number(4096) : -1);
+                int set = number(1 << y.count(3)) & (y.count(3) > 7 ? ~number(4096) : -1);
                 // else most sets have one that is not HELD
-                for (int i = 0; i < 12 && chance.nextInt(9) > 0; i++) {
-                    if (x.mark(i, 1) == HandBeasts.FINDING & y.mark(i, 1) == HandBeasts.FINDING) set &= ~(1 << i);
+                for (int i = 0; i < y.count(3) && chance.nextInt(9) > 0; i++) {
+                    if (!y.isHeldPose(i)) set &= ~(1 << i);
                 }
                 same("order(" + set + ", " + r + ")", x.order(set, r), y.order(set, r));
                 break;
@@ -321,17 +335,17 @@ final class PlainTest {
                 same("two(" + k + ", " + l + ")", x.two(k, l), y.two(k, l));
                 break;
             default:
-                int j = number(x.count(2));
+                int j = number(y.count(2));
                 same("stiff(" + j + ", " + k + ")", x.stiff(j, k), y.stiff(j, k));
                 break;
         }
     }
 
     private void lookers() {
-        int l = chance.nextInt(4) == 0 ? number(x.count(6)) : 0;
-        int p = number(x.count(3));
+        int l = chance.nextInt(4) == 0 ? number(y.count(6)) : 0;
+        int p = number(y.count(3));
         int k = number(6);
-        switch (x.count(6) == 0 ? 0 : chance.nextInt(10)) {
+        switch (y.count(6) == 0 ? 0 : chance.nextInt(10)) {
             case 0:
                 int e = number(5);
                 int a = number(5);
@@ -346,7 +360,10 @@ final class PlainTest {
             case 6: same("agrees(" + l + ")", x.agrees(l), y.agrees(l)); break;
             case 7:
             case 8: same("fit(" + l + ")", x.fit(l), y.fit(l)); break;
-            default: same("odds(" + p + ", " + k + ")", x.odds(p, k), y.odds(p, k)); break;
+            default:
+                same("odds(" + p + ", " + k + ")", x.odds(p, k), y.odds(p, k));
+                sameFraction();
+                break;
         }
     }
 

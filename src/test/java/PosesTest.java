@@ -62,33 +62,6 @@ final class PosesTest {
         Kit.same("count(4)", x.count(4), 1);
     }
 
-    static void promise16PoseRefused() {
-        HandBeasts x = Kit.withHands(ONE, 2);
-        Kit.row(x, 0, 1, 2);
-        Kit.row(x, 1, 1);
-        Kit.row(x, 2, 0, 3);
-        Kit.row(x, 3, 0, 0, 0);
-        Kit.bad(x, "a ROW that is none", () -> x.pose(6, NONE));
-        Kit.bad(x, "a ROW that is none", () -> x.pose(-1, NONE));
-        Kit.bad(x, "a JOINT that is none, a ROW that is missing", () -> x.pose(5, 2));
-        Kit.bad(x, "JOINT -1", () -> x.pose(0, -1));
-        Kit.bad(x, "JOINT -8", () -> x.pose(0, -8));
-        Kit.bad(x, "JOINT -10", () -> x.pose(0, -10));
-        Kit.finds(x, "a ROW that is missing", () -> x.pose(5, 0), Kit.NOTHING);
-        Kit.finds(x, "too few turns", () -> x.pose(1, 0), Kit.SIZE);
-        Kit.finds(x, "too many turns", () -> x.pose(3, 0), Kit.SIZE);
-        Kit.finds(x, "a turn that is too much", () -> x.pose(2, 1), Kit.UNLIKE);
-        Kit.row(x, 2, -2, 0);
-        Kit.finds(x, "a turn that is too little", () -> x.pose(2, NONE), Kit.UNLIKE);
-        Kit.bad(x, "JOINT 0 can't turn on", () -> x.pose(0, 0));
-        Kit.bad(x, "JOINT 1 can't turn on", () -> x.pose(0, 1));
-        for (int p = 0; p < 12; p++) Kit.same("pose()", x.pose(0, NONE), p);
-        Kit.refused(x, "a thirteenth POSE", () -> x.pose(0, NONE), HandBeasts.FULL);
-        Kit.bad(x, "a thirteenth one that can't turn on", () -> x.pose(0, 0));
-        Kit.finds(x, "a thirteenth one that is unlike", () -> x.pose(2, NONE), Kit.UNLIKE);
-        Kit.finds(x, "a thirteenth one of no ROW", () -> x.pose(5, NONE), Kit.NOTHING);
-    }
-
     static void promise17Help() {
         HandBeasts x = Kit.withHands(ONE, 2);
         Kit.pose(x, NONE, 1, 0, 0);
@@ -115,31 +88,6 @@ final class PosesTest {
         Kit.tells(x, "KIND of it", x.about(0, 0), 5);
     }
 
-    static void promise17HelpRefused() {
-        HandBeasts x = Kit.withHands(EDGE, 1);
-        Kit.pose(x, NONE, 1, 2);
-        Kit.pose(x, NONE, 3, 0);
-        x.strain(0);
-        Kit.pose(x, NONE, 2, 2);
-        Kit.shadow(x, 0, 1, 1);
-        Kit.row(x, 1, 1, 2, 3, 4, 5, 6, 7, 8, 9);
-        Kit.row(x, 2, 1, 2, 3, 4, 5, 6, 7, 8, 9, 4096);
-        Kit.row(x, 3, -1, 2, 3, 4, 5, 6, 7, 8, 9, 10, 11);
-        Kit.bad(x, "help(3, 0)", () -> x.help(3, 0));
-        Kit.bad(x, "help(-1, 0)", () -> x.help(-1, 0));
-        Kit.bad(x, "help(1, 6)", () -> x.help(1, 6));
-        Kit.bad(x, "help(0, -1)", () -> x.help(0, -1));
-        Kit.finds(x, "a BARRED one, a ROW that is missing", () -> x.help(1, 4), Kit.UNLIKE);
-        Kit.finds(x, "a STRAINED one", () -> x.help(2, 0), Kit.UNLIKE);
-        Kit.finds(x, "a ROW that is missing", () -> x.help(0, 4), Kit.NOTHING);
-        Kit.finds(x, "nine numbers", () -> x.help(0, 1), Kit.SIZE);
-        Kit.finds(x, "eleven numbers, one unlike", () -> x.help(0, 3), Kit.SIZE);
-        Kit.finds(x, "a number above 4095", () -> x.help(0, 2), Kit.UNLIKE);
-        Kit.row(x, 2, -1, 2, 3, 4, 5, 6, 7, 8, 9, 10);
-        Kit.finds(x, "a number below 0", () -> x.help(0, 2), Kit.UNLIKE);
-        Kit.tells(x, "KIND as it was", x.about(0, 0), 1);
-    }
-
     static void promise18Back() {
         HandBeasts x = Kit.withHands(ONE, 2);
         Kit.beast(x, 3, 0, 5, 5);
@@ -148,8 +96,6 @@ final class PosesTest {
         x.looker(1, 1, 1);
         for (int p = 3; p >= 0; p--) x.call(0, p, 3);
         x.call(1, 1, 3);
-        Kit.bad(x, "back(5)", () -> x.back(5));
-        Kit.bad(x, "back(-1)", () -> x.back(-1));
         Kit.refused(x, "back(4)", () -> x.back(4), 0);
         Kit.same("back(2)", x.back(2), 2);
         Kit.same("POSES", x.count(3), 2);
@@ -165,7 +111,6 @@ final class PosesTest {
         Kit.same("no POSES", x.count(3), 0);
         Kit.same("no CALLS", x.count(7), 0);
         Kit.refused(x, "back(0) again", () -> x.back(0), 0);
-        Kit.bad(x, "back(1)", () -> x.back(1));
     }
 
     static void promise19About() {
@@ -178,10 +123,6 @@ final class PosesTest {
         for (int p = 0; p < 3; p++) {
             for (int what = 0; what < 3; what++) Kit.tells(x, "about(" + p + ", " + what + ")", x.about(p, what), due[p][what]);
         }
-        Kit.bad(x, "about(3, 0)", () -> x.about(3, 0));
-        Kit.bad(x, "about(-1, 0)", () -> x.about(-1, 0));
-        Kit.bad(x, "about(0, 3)", () -> x.about(0, 3));
-        Kit.bad(x, "about(0, -1)", () -> x.about(0, -1));
         HandBeasts y = Kit.withHands(EDGE, 1);
         Kit.pose(y, 0, 3, -2);
         Kit.tells(y, "KIND of a BARRED one", y.about(0, 0), 3);
@@ -199,10 +140,6 @@ final class PosesTest {
         Kit.tells(x, "turn(1, 1)", x.turn(1, 1), 2);
         Kit.row(x, 5, 0, 0);
         Kit.tells(x, "the ROW is no more looked at", x.turn(1, 1), 2);
-        Kit.bad(x, "turn(2, 0)", () -> x.turn(2, 0));
-        Kit.bad(x, "turn(-1, 0)", () -> x.turn(-1, 0));
-        Kit.bad(x, "turn(0, 2)", () -> x.turn(0, 2));
-        Kit.bad(x, "turn(0, -1)", () -> x.turn(0, -1));
     }
 
     static void promise21MarkOfHeldOnes() {
@@ -222,11 +159,6 @@ final class PosesTest {
                 Kit.finds(x, "mark(" + p + ", " + kind + ")", () -> x.mark(of, kind), Kit.UNLIKE);
             }
         }
-        Kit.bad(x, "mark(0, 0)", () -> x.mark(0, 0));
-        Kit.bad(x, "mark(0, 6)", () -> x.mark(0, 6));
-        Kit.bad(x, "mark(0, -1)", () -> x.mark(0, -1));
-        Kit.bad(x, "mark(3, 1)", () -> x.mark(3, 1));
-        Kit.bad(x, "mark(-1, 1)", () -> x.mark(-1, 1));
         HandBeasts y = Kit.withHands("h65f0f2h3", 0);
         Kit.pose(y, NONE, 1);
         Kit.same("mark of two HANDS", y.mark(0, 1), 4);
@@ -303,10 +235,6 @@ final class PosesTest {
         x.help(3, 1);
         Kit.same("shape with no CARD", x.shape(3, 5), 4);
         Kit.holdsShadow(x, "shape with no CARD", 5, 5, 5, 5, 4, 5, 3, 4, 3);
-        Kit.bad(x, "shape(4, 0)", () -> x.shape(4, 0));
-        Kit.bad(x, "shape(-1, 0)", () -> x.shape(-1, 0));
-        Kit.bad(x, "shape(0, 6)", () -> x.shape(0, 6));
-        Kit.bad(x, "shape(0, -1)", () -> x.shape(0, -1));
     }
 
     static void promise22ShapeOfOtherKinds() {
@@ -350,10 +278,6 @@ final class PosesTest {
         x.lamp(2, 3, 3);
         Kit.same("by LAMP 2, 3, 3", x.thrown(0, 0), 0);
         Kit.holdsShadow(x, "by LAMP 2, 3, 3", 0);
-        Kit.bad(x, "thrown(1, 0)", () -> x.thrown(1, 0));
-        Kit.bad(x, "thrown(-1, 0)", () -> x.thrown(-1, 0));
-        Kit.bad(x, "thrown(0, 6)", () -> x.thrown(0, 6));
-        Kit.bad(x, "thrown(0, -1)", () -> x.thrown(0, -1));
     }
 
     static void promise23ThrownOutOfTheSheet() {

@@ -45,19 +45,6 @@ final class RowsTest {
         Kit.same("count(8)", x.count(8), 2);
     }
 
-    static void promise02RowRefused() {
-        HandBeasts x = new HandBeasts();
-        Kit.row(x, 0, 4);
-        Kit.bad(x, "row(6, 1)", () -> x.row(6, 1));
-        Kit.bad(x, "row(-1, 1)", () -> x.row(-1, 1));
-        Kit.bad(x, "row(0, 41)", () -> x.row(0, 41));
-        Kit.bad(x, "row of the most", () -> x.row(0, Integer.MAX_VALUE));
-        Kit.bad(x, "row(6, -1)", () -> x.row(6, -1));
-        Kit.finds(x, "row(0, -1)", () -> x.row(0, -1), Kit.SIZE);
-        Kit.finds(x, "row of the least", () -> x.row(0, Integer.MIN_VALUE), Kit.SIZE);
-        Kit.holds(x, "refused calls", 0, 4);
-    }
-
     static void promise03Lay() {
         HandBeasts x = new HandBeasts();
         x.row(2, 3);
@@ -68,27 +55,12 @@ final class RowsTest {
         Kit.holds(x, "lay()", 2, Integer.MIN_VALUE, 0, Integer.MAX_VALUE);
     }
 
-    static void promise03LayRefused() {
-        HandBeasts x = new HandBeasts();
-        x.row(2, 3);
-        x.lay(2, 1, 4);
-        x.lay(2, 1, 4);
-        Kit.bad(x, "lay(6, 0, 1)", () -> x.lay(6, 0, 1));
-        Kit.bad(x, "lay(-1, 0, 1)", () -> x.lay(-1, 0, 1));
-        Kit.finds(x, "lay(1, 0, 1)", () -> x.lay(1, 0, 1), Kit.NOTHING);
-        Kit.finds(x, "lay(1, -1, 1)", () -> x.lay(1, -1, 1), Kit.NOTHING);
-        Kit.finds(x, "lay(2, 3, 1)", () -> x.lay(2, 3, 1), Kit.BEYOND);
-        Kit.finds(x, "lay(2, -1, 1)", () -> x.lay(2, -1, 1), Kit.BEYOND);
-    }
-
     static void promise04At() {
         HandBeasts x = new HandBeasts();
         Kit.row(x, 3, 11, -12, 13);
         Kit.tells(x, "at(3, 0)", x.at(3, 0), 11);
         Kit.tells(x, "at(3, 1)", x.at(3, 1), -12);
         Kit.tells(x, "at(3, 2)", x.at(3, 2), 13);
-        Kit.bad(x, "at(6, 0)", () -> x.at(6, 0));
-        Kit.bad(x, "at(-1, 0)", () -> x.at(-1, 0));
         Kit.finds(x, "at(0, 0)", () -> x.at(0, 0), Kit.NOTHING);
         Kit.finds(x, "at(0, 9)", () -> x.at(0, 9), Kit.NOTHING);
         Kit.finds(x, "at(3, 3)", () -> x.at(3, 3), Kit.BEYOND);
@@ -104,8 +76,6 @@ final class RowsTest {
         Kit.finds(x, "at(4, 0)", () -> x.at(4, 0), Kit.NOTHING);
         Kit.finds(x, "tear(4) again", () -> x.tear(4), Kit.NOTHING);
         Kit.same("tear(5), of no places", x.tear(5), 1);
-        Kit.bad(x, "tear(6)", () -> x.tear(6));
-        Kit.bad(x, "tear(-1)", () -> x.tear(-1));
     }
 
     static void promise06Copy() {
@@ -122,30 +92,6 @@ final class RowsTest {
         Kit.same("copy none, at both sizes", x.copy(0, 5, 1, 3, 0), 1);
         Kit.same("copy all", x.copy(1, 0, 1, 0, 3), 1);
         Kit.holds(x, "copy all", 1, 0, 3, 4);
-    }
-
-    static void promise06CopyRefused() {
-        HandBeasts x = new HandBeasts();
-        Kit.row(x, 0, 1, 2, 3);
-        Kit.row(x, 1, 4, 5);
-        Kit.bad(x, "copy from 6", () -> x.copy(6, 0, 0, 0, -1));
-        Kit.bad(x, "copy to 6", () -> x.copy(0, 0, 6, 0, 1));
-        Kit.bad(x, "copy from -1", () -> x.copy(-1, 0, 0, 0, 1));
-        Kit.bad(x, "copy to -1", () -> x.copy(0, 0, -1, 0, -1));
-        Kit.finds(x, "copy -1 from what is missing", () -> x.copy(4, 0, 0, 0, -1), Kit.SIZE);
-        Kit.finds(x, "copy from what is missing", () -> x.copy(4, 9, 0, 9, 9), Kit.NOTHING);
-        Kit.finds(x, "copy to what is missing", () -> x.copy(0, 9, 4, 9, 9), Kit.NOTHING);
-        Kit.finds(x, "copy beyond the first", () -> x.copy(1, 1, 0, 0, 2), Kit.BEYOND);
-        Kit.finds(x, "copy beyond the second", () -> x.copy(0, 0, 1, 1, 2), Kit.BEYOND);
-        Kit.finds(x, "copy from below 0", () -> x.copy(0, -1, 1, 0, 1), Kit.BEYOND);
-        Kit.finds(x, "copy to below 0", () -> x.copy(0, 0, 1, -1, 1), Kit.BEYOND);
-        Kit.finds(x, "copy none from below 0", () -> x.copy(0, -1, 1, 0, 0), Kit.BEYOND);
-        Kit.finds(x, "copy none to below 0", () -> x.copy(0, 0, 1, -1, 0), Kit.BEYOND);
-        Kit.finds(x, "copy none from above the size", () -> x.copy(0, 4, 1, 0, 0), Kit.BEYOND);
-        Kit.finds(x, "copy none to above the size", () -> x.copy(0, 0, 1, 3, 0), Kit.BEYOND);
-        Kit.finds(x, "copy the most", () -> x.copy(0, 1, 0, 1, Integer.MAX_VALUE), Kit.BEYOND);
-        Kit.finds(x, "copy from the most", () -> x.copy(0, Integer.MAX_VALUE, 0, 0, 1), Kit.BEYOND);
-        Kit.finds(x, "copy to the least", () -> x.copy(0, 0, 0, Integer.MIN_VALUE, 1), Kit.BEYOND);
     }
 
     static void promise07Mean() {
@@ -165,8 +111,6 @@ final class RowsTest {
         Kit.row(x, 1);
         Kit.finds(x, "mean of none", () -> x.mean(1), Kit.NOUGHT);
         Kit.finds(x, "mean of a ROW that is missing", () -> x.mean(2), Kit.NOTHING);
-        Kit.bad(x, "mean(6)", () -> x.mean(6));
-        Kit.bad(x, "mean(-1)", () -> x.mean(-1));
     }
 
     static void promise08Text() {
@@ -180,10 +124,6 @@ final class RowsTest {
         Kit.same("put(3, 79)", x.put(3, 79, 1), 1032);
         Kit.same("text(2, 0)", x.text(2, 0), 0);
         Kit.same("count(9)", x.count(9), 3);
-        Kit.bad(x, "text(4, 1)", () -> x.text(4, 1));
-        Kit.bad(x, "text(-1, 1)", () -> x.text(-1, 1));
-        Kit.bad(x, "text(0, 81)", () -> x.text(0, 81));
-        Kit.bad(x, "text(4, -1)", () -> x.text(4, -1));
         Kit.finds(x, "text(0, -1)", () -> x.text(0, -1), Kit.SIZE);
     }
 
@@ -200,8 +140,6 @@ final class RowsTest {
         Kit.same("put(1, 1, the least)", x.put(1, 1, Integer.MIN_VALUE), 1032);
         Kit.same("put(1, 1, 0)", x.put(1, 1, 0), 1000);
         Kit.same("asked() is not told", x.asked(), 0);
-        Kit.bad(x, "put(4, 0, 1)", () -> x.put(4, 0, 1));
-        Kit.bad(x, "put(-1, 0, 1)", () -> x.put(-1, 0, 1));
         Kit.finds(x, "put(0, 0, 1)", () -> x.put(0, 0, 1), Kit.NOTHING);
         Kit.finds(x, "put(0, -1, 1)", () -> x.put(0, -1, 1), Kit.NOTHING);
         Kit.finds(x, "put(1, 2, 1)", () -> x.put(1, 2, 1), Kit.BEYOND);

@@ -54,28 +54,6 @@ final class WaysTest {
         Kit.refused(x, "0, 1 is in reach, not -1, 1", () -> x.way(0, 1), NONE);
     }
 
-    static void promise30WayRefused() {
-        HandBeasts x = Kit.withHands(GAP, 1);
-        Kit.pose(x, NONE, 1, -2);
-        Kit.pose(x, NONE, 3, 0);
-        x.strain(1);
-        Kit.pose(x, NONE, 2, 2);
-        Kit.bad(x, "way(3, 0)", () -> x.way(3, 0));
-        Kit.bad(x, "way(0, 3)", () -> x.way(0, 3));
-        Kit.bad(x, "way(-1, 1)", () -> x.way(-1, 1));
-        Kit.bad(x, "way(1, -1)", () -> x.way(1, -1));
-        Kit.finds(x, "from a BARRED one", () -> x.way(1, 0), Kit.UNLIKE);
-        Kit.finds(x, "to a BARRED one", () -> x.way(0, 1), Kit.UNLIKE);
-        Kit.finds(x, "to a STRAINED one", () -> x.way(0, 2), Kit.UNLIKE);
-        x.strain(99);
-        Kit.finds(x, "to one that was STRAINED", () -> x.way(0, 2), Kit.UNLIKE);
-        Kit.hands(x, "h65f0222222f4222222", 6);
-        Kit.pose(x, NONE, 1, 0, 0, 0, 0, 0, 0);
-        Kit.pose(x, NONE, 3, 2, 2, 2, 0, 0, 0);
-        Kit.finds(x, "UNLIKE ahead of SPENT", () -> x.way(0, 1), Kit.UNLIKE);
-        Kit.refused(x, "SPENT", () -> x.way(0, 0), SPENT);
-    }
-
     static void promise31Unseen() {
         HandBeasts x = Kit.withHands(GRID, 2);
         Kit.pose(x, NONE, 1, -1, 0);
@@ -108,28 +86,6 @@ final class WaysTest {
         x.strain(0);
         Kit.refused(x, "an end is strained", () -> x.unseen(0, 0, 0, 0), NONE);
         Kit.refused(x, "the other end is strained", () -> x.unseen(2, 0, 0, 0), NONE);
-    }
-
-    static void promise31UnseenRefused() {
-        HandBeasts x = Kit.withHands(GAP, 1);
-        Kit.pose(x, NONE, 1, -2);
-        Kit.pose(x, NONE, 3, 0);
-        Kit.beast(x, 0, 0, 5, 5);
-        Kit.bad(x, "unseen(2, 0, 0, 0)", () -> x.unseen(2, 0, 0, 0));
-        Kit.bad(x, "unseen(0, 2, 0, 0)", () -> x.unseen(0, 2, 0, 0));
-        Kit.bad(x, "unseen(-1, 0, 0, 0)", () -> x.unseen(-1, 0, 0, 0));
-        Kit.bad(x, "unseen(0, -1, 0, 0)", () -> x.unseen(0, -1, 0, 0));
-        Kit.bad(x, "unseen(1, 0, 6, 0)", () -> x.unseen(1, 0, 6, 0));
-        Kit.bad(x, "unseen(1, 0, -1, 0)", () -> x.unseen(1, 0, -1, 0));
-        Kit.bad(x, "unseen(0, 1, 1, 121)", () -> x.unseen(0, 1, 1, 121));
-        Kit.bad(x, "unseen(0, 0, 1, -1)", () -> x.unseen(0, 0, 1, -1));
-        Kit.finds(x, "UNLIKE ahead of NOTHING", () -> x.unseen(0, 1, 1, 0), Kit.UNLIKE);
-        Kit.finds(x, "UNLIKE ahead of NOTHING", () -> x.unseen(1, 0, 1, 0), Kit.UNLIKE);
-        Kit.finds(x, "a BEAST that is missing", () -> x.unseen(0, 0, 1, 0), Kit.NOTHING);
-        Kit.hands(x, "h65f0222222f4222222", 6);
-        Kit.pose(x, NONE, 1, 0, 0, 0, 0, 0, 0);
-        Kit.finds(x, "NOTHING ahead of SPENT", () -> x.unseen(0, 0, 1, 0), Kit.NOTHING);
-        Kit.refused(x, "SPENT", () -> x.unseen(0, 0, 0, 0), SPENT);
     }
 
     static void promise34Order() {
@@ -178,32 +134,4 @@ final class WaysTest {
         Kit.holds(x, "a WAY of two of three", 0, 0, 2);
     }
 
-    static void promise34OrderRefused() {
-        HandBeasts x = Kit.withHands(GAP, 1);
-        Kit.pose(x, NONE, 1, -2);
-        Kit.pose(x, NONE, 3, 0);
-        Kit.bad(x, "of none", () -> x.order(0, 0));
-        Kit.bad(x, "of a POSE that is none", () -> x.order(4, 0));
-        Kit.bad(x, "of a POSE that is none, too", () -> x.order(6, 0));
-        Kit.bad(x, "of bits below 0", () -> x.order(-1, 0));
-        Kit.bad(x, "of the sign's bit", () -> x.order(Integer.MIN_VALUE, 0));
-        Kit.bad(x, "of the sign's bit, too", () -> x.order(Integer.MIN_VALUE + 1, 0));
-        Kit.bad(x, "of bit 12", () -> x.order(4097, 0));
-        Kit.bad(x, "ROW 6", () -> x.order(1, 6));
-        Kit.bad(x, "ROW -1", () -> x.order(2, -1));
-        Kit.finds(x, "a BARRED one", () -> x.order(2, 0), Kit.UNLIKE);
-        Kit.finds(x, "a BARRED one, too", () -> x.order(3, 0), Kit.UNLIKE);
-        x.back(0);
-        Kit.pose(x, NONE, 3, 0);
-        Kit.finds(x, "the first one is BARRED", () -> x.order(1, 0), Kit.UNLIKE);
-        Kit.hands(x, "h65f0222222f4222222", 6);
-        Kit.pose(x, NONE, 1, 0, 0, 0, 0, 0, 0);
-        Kit.pose(x, NONE, 3, 2, 2, 2, 0, 0, 0);
-        Kit.finds(x, "UNLIKE ahead of SPENT", () -> x.order(3, 0), Kit.UNLIKE);
-        Kit.refused(x, "SPENT", () -> x.order(1, 0), SPENT);
-        HandBeasts y = new HandBeasts();
-        Kit.bad(y, "of no POSES", () -> y.order(1, 0));
-        Kit.pose(y, NONE, 1);
-        Kit.same("of no JOINTS", y.order(1, 0), 0);
-    }
 }
