@@ -12,21 +12,41 @@ public final class AllTests {
         EdgesOfRowsTest.class, EdgesOfHandsTest.class, EdgesOfPosesTest.class, EdgesOfBeastsTest.class,
         EdgesOfWaysTest.class, EdgesOfLookersTest.class, EdgesOfToldTest.class,
         RefusalsOfRowsTest.class, RefusalsOfPosesTest.class, RefusalsOfBeastsTest.class, RefusalsOfLookersTest.class,
-        PlainTest.class, LanguageTest.class
+        AllCallsTest.class, PlainTest.class, LanguageTest.class
     };
 
     static String program = "src/main/java/HandBeasts.java";
-    private static int passed;
-    private static int failed;
+    private static final int MINUTES = 5;
+    private static volatile int passed;
+    private static volatile int failed;
+    private static volatile String current = "";
 
     private AllTests() {
     }
 
     public static void main(String[] args) {
         if (args.length > 0) program = args[0];
+        failIfItDoesNotEnd();
         for (Class<?> tests : TESTS) runAll(tests);
         System.out.println(passed + " of the own tests passed, " + failed + " failed");
         if (failed > 0 || passed == 0) System.exit(1);
+    }
+
+    /** A call that never ends is a failure, too. */
+    private static void failIfItDoesNotEnd() {
+        Thread watch = new Thread(() -> {
+            try {
+                Thread.sleep(MINUTES * 60_000L);
+            } catch (InterruptedException e) {
+                return;
+            }
+            System.out.println("FAILED: the tests did not end in " + MINUTES + " minutes, at " + current);
+            System.out.println(passed + " of the own tests passed, " + (failed + 1) + " failed");
+            System.out.flush();
+            Runtime.getRuntime().halt(1);
+        });
+        watch.setDaemon(true);
+        watch.start();
     }
 
     private static void runAll(Class<?> tests) {
@@ -45,6 +65,7 @@ public final class AllTests {
     }
 
     private static void run(Class<?> tests, Method m) {
+        current = tests.getName() + "." + m.getName();
         try {
             m.setAccessible(true);
             m.invoke(null);

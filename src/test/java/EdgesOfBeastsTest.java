@@ -236,6 +236,12 @@ final class EdgesOfBeastsTest {
         }
     }
 
+    static void promise26TheSixthFingerOfTheMostTurns() {
+        // HAND 0 is far away; of 125 turns just 2, 2, 2 and -2, -2, -2 lead back to the WRIST
+        HandBeasts x = Kit.withHands("h26f0f1f2f3f4h80f0222222", 3);
+        Kit.both(x, "many()", x.many(), 123, 0);
+    }
+
     static void promise26StrainedThatAreBarredDoNotCount() {
         HandBeasts x = Kit.withHands(EDGE, 1);
         x.strain(0);
