@@ -12,7 +12,7 @@ public final class AllTests {
         EdgesOfRowsTest.class, EdgesOfHandsTest.class, EdgesOfPosesTest.class, EdgesOfBeastsTest.class,
         EdgesOfWaysTest.class, EdgesOfLookersTest.class, EdgesOfToldTest.class,
         RefusalsOfRowsTest.class, RefusalsOfPosesTest.class, RefusalsOfBeastsTest.class, RefusalsOfLookersTest.class,
-        AllCallsTest.class, PlainTest.class, LanguageTest.class
+        AllCallsTest.class, PlainTest.class, LanguageTest.class, FaceTest.class, ReadmeTest.class
     };
 
     static String program = "src/main/java/HandBeasts.java";
